@@ -401,22 +401,7 @@ public final class QuayCranes {
         if (!hasQuay() || what < 0 || what > 3) {
             return HIDDEN;
         }
-        if (now.leftBits() == 0) {
-            return 0;
-        }
-        int able = now.cranes - Integer.bitCount(now.broken);
-        if (able < 1) {
-            return NONE;
-        }
-        int row = now.longestRow();
-        int share = (now.leftWithin(0, now.bays) + able - 1) / able;
-        int crowd = now.busiestBays(Math.min(now.gap, now.bays));
-        switch (what) {
-            case 1: return row;
-            case 2: return share;
-            case 3: return crowd;
-            default: return Math.max(row, Math.max(share, crowd));
-        }
+        return now.boundOf(what);
     }
 
     public int without(int crane) {
@@ -953,7 +938,7 @@ public final class QuayCranes {
         }
 
         int at(int crane, int place) {
-            if (crane < 0 || crane >= size.length || place < 0 || place >= size[crane]) {
+            if (crane < 0 || crane >= size.length || place < 0 || place >= size[crane] || place >= MOST_TASKS) {
                 return NONE;
             }
             return list[crane * MOST_TASKS + place];
@@ -997,21 +982,20 @@ public final class QuayCranes {
         }
 
         int holder(int task) {
-            for (int c = 0; c < size.length; c++) {
-                for (int k = 0; k < size[c]; k++) {
-                    if (list[c * MOST_TASKS + k] == task) {
-                        return c;
-                    }
-                }
-            }
-            return NONE;
+            int found = find(task);
+            return found < 0 ? NONE : found / MOST_TASKS;
         }
 
         int spot(int task) {
+            int found = find(task);
+            return found < 0 ? NONE : found % MOST_TASKS;
+        }
+
+        private int find(int task) {
             for (int c = 0; c < size.length; c++) {
-                for (int k = 0; k < size[c]; k++) {
+                for (int k = 0; k < MOST_TASKS && k < size[c]; k++) {
                     if (list[c * MOST_TASKS + k] == task) {
-                        return k;
+                        return c * MOST_TASKS + k;
                     }
                 }
             }
@@ -1021,7 +1005,7 @@ public final class QuayCranes {
         int bits() {
             int bits = 0;
             for (int c = 0; c < size.length; c++) {
-                for (int k = 0; k < size[c]; k++) {
+                for (int k = 0; k < MOST_TASKS && k < size[c]; k++) {
                     bits |= 1 << list[c * MOST_TASKS + k];
                 }
             }
@@ -1125,14 +1109,28 @@ public final class QuayCranes {
             return heavy[task] <= lift[crane];
         }
 
+        /** Whether a crane could ever stand at a task's bay: broken ones and the ends of the quay leave no room behind. */
+        boolean canReach(int crane, int task) {
+            int low = gap * crane;
+            int high = bays - 1 - gap * (cranes - 1 - crane);
+            for (int c = 0; c < cranes; c++) {
+                if ((broken >> c & 1) != 0) {
+                    int nearest = bay[c] + gap * (crane - c);
+                    low = c < crane ? Math.max(low, nearest) : low;
+                    high = c > crane ? Math.min(high, nearest) : high;
+                }
+            }
+            return site[task] >= low && site[task] <= high;
+        }
+
         int leftBits() {
             return (1 << tasks) - 1 & ~done;
         }
 
         int nextOf(int crane) {
-            for (int k = 0; k < plan.size[crane]; k++) {
+            for (int k = 0; k < MOST_TASKS && k < plan.size[crane]; k++) {
                 int task = plan.list[crane * MOST_TASKS + k];
-                if ((done >> task & 1) == 0) {
+                if (task >= 0 && task < tasks && (done >> task & 1) == 0) {
                     return task;
                 }
             }
@@ -1238,6 +1236,26 @@ public final class QuayCranes {
             return stirred;
         }
 
+        /** BOUND: the greatest (0), or one of its three sorts; none of them, if all cranes are broken. */
+        int boundOf(int what) {
+            if (leftBits() == 0) {
+                return 0;
+            }
+            int able = cranes - Integer.bitCount(broken);
+            if (able < 1) {
+                return NONE;
+            }
+            int row = longestRow();
+            int share = (leftWithin(0, bays) + able - 1) / able;
+            int crowd = busiestBays(Math.min(gap, bays));
+            switch (what) {
+                case 1: return row;
+                case 2: return share;
+                case 3: return crowd;
+                default: return Math.max(row, Math.max(share, crowd));
+            }
+        }
+
         int leftWithin(int from, int behind) {
             int sum = 0;
             for (int t = 0; t < tasks; t++) {
@@ -1248,7 +1266,7 @@ public final class QuayCranes {
             return sum;
         }
 
-        int busiestBays(int width) {
+        private int busiestBays(int width) {
             int most = 0;
             for (int b = 0; b + width <= bays; b++) {
                 most = Math.max(most, leftWithin(b, b + width));
@@ -1297,7 +1315,7 @@ public final class QuayCranes {
         }
 
         /** The minutes left in the longest row of tasks, each behind the one ahead of it. */
-        int longestRow() {
+        private int longestRow() {
             int most = 0;
             for (int t = 0; t < tasks; t++) {
                 most = Math.max(most, rowTo(this, t, 0));
@@ -1322,7 +1340,7 @@ public final class QuayCranes {
             int sum = 0;
             for (int k = 0; k < plan.size[crane]; k++) {
                 int task = plan.at(crane, k);
-                if (task >= 0) {
+                if (task >= 0 && task < tasks) {
                     sum += takes[task] - did[task];
                 }
             }
@@ -1425,12 +1443,15 @@ public final class QuayCranes {
         int task;
         /** The greatest LAST that would still be taken. */
         int limit;
+        /** No LAST can be less. */
+        int least;
 
         void open(int most) {
             known = true;
             last = NONE;
             task = NONE;
             limit = most;
+            least = 0;
             plan.clear();
         }
 
@@ -1468,6 +1489,7 @@ public final class QuayCranes {
             rough.known = false;
             findZones(yard, lost, rough);
             goal.open(rough.last == NONE ? FAR : rough.last);
+            goal.least = from.boundOf(0);
             trial.clear();
             extend(this, goal, 0, from.leftBits(), from.bay[0], 0, 0);
         }
@@ -1475,7 +1497,7 @@ public final class QuayCranes {
         /** Lists ahead of the crane's are whole, its own goes on: it ends, or has one task more. */
         private static void extend(Search s, Choice goal, int crane, int left, int at, int busy, int depth) {
             Yard yard = s.from;
-            if (busy > goal.limit || depth > MOST_CRANES + MOST_TASKS) {
+            if (Math.max(busy, goal.least) > goal.limit || depth > MOST_CRANES + MOST_TASKS) {
                 return;
             }
             if (crane >= yard.cranes) {
@@ -1490,7 +1512,7 @@ public final class QuayCranes {
                 return;
             }
             for (int t = 0; t < yard.tasks; t++) {
-                if ((left >> t & 1) != 0 && yard.canLift(crane, t)) {
+                if ((left >> t & 1) != 0 && yard.canLift(crane, t) && yard.canReach(crane, t)) {
                     // it goes there, then must be calm again, for a minute at least, ahead of the work
                     int way = Math.abs(yard.site[t] - at);
                     int spent = busy + way + (way > 0 ? 1 : 0) + yard.takes[t] - yard.did[t];
