@@ -279,7 +279,7 @@ public final class QuayCranes {
         if (!canTell(what)) {
             return HIDDEN;
         }
-        search.findZones(now, 0, zones);
+        search.findZones(now, zones);
         return zones.tell(what);
     }
 
@@ -309,7 +309,7 @@ public final class QuayCranes {
         Choice choice = which == 0 ? easy : which == 1 ? zones : which == 2 ? best : better;
         switch (which) {
             case 0: search.findEasy(now, easy); break;
-            case 1: search.findZones(now, 0, zones); break;
+            case 1: search.findZones(now, zones); break;
             case 2: search.findBest(now, 0, best); break;
             default: search.findBetter(now, ahead().last, better); break;
         }
@@ -665,7 +665,13 @@ public final class QuayCranes {
                 }
             } else if (isDigit(byteAt(cursor))) {
                 kind = NUMBER;
-                readNumber();
+                int sum = 0;
+                while (cursor < length && isDigit(byteAt(cursor))) {
+                    // kept small: of more digits than two the sum is not looked at
+                    sum = sum % 10 * 10 + byteAt(cursor) - '0';
+                    cursor++;
+                }
+                value = cursor - start > 2 ? NONE : sum;
             } else {
                 kind = byteAt(cursor) == ';' ? MARK : OTHER;
                 cursor++;
@@ -693,19 +699,6 @@ public final class QuayCranes {
             int number = value;
             advance();
             return number;
-        }
-
-        private void readNumber() {
-            int sum = 0;
-            int digits = 0;
-            while (cursor < length && isDigit(byteAt(cursor))) {
-                if (digits < 2) {
-                    sum = sum * 10 + byteAt(cursor) - '0';
-                }
-                digits++;
-                cursor++;
-            }
-            value = digits > 2 ? NONE : sum;
         }
 
         private int byteAt(int k) {
@@ -1486,8 +1479,8 @@ public final class QuayCranes {
                 return;
             }
             // zones are plans, too: none worse than theirs needs a look
-            rough.known = false;
-            findZones(yard, lost, rough);
+            begin(yard, lost, rough);
+            cut(this, rough, 0, 0, 0);
             goal.open(rough.last == NONE ? FAR : rough.last);
             goal.least = from.boundOf(0);
             trial.clear();
@@ -1523,16 +1516,20 @@ public final class QuayCranes {
             }
         }
 
-        void findZones(Yard yard, int lost, Choice goal) {
-            if (goal.known) {
-                return;
+        void findZones(Yard yard, Choice goal) {
+            if (!goal.known) {
+                begin(yard, 0, goal);
+                cut(this, goal, 0, 0, 0);
             }
+        }
+
+        /** All is so as in the yard, but for the cranes that are lost; no plan is found yet. */
+        private void begin(Yard yard, int lost, Choice goal) {
             from.copyOf(yard);
             from.broken |= lost;
             goal.open(FAR);
             trial.clear();
             sortByBay();
-            cut(this, goal, 0, 0, 0);
         }
 
         /** Runs of the cranes ahead are cut, up to a place in the order: all runs of this crane in turn. */
