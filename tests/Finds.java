@@ -18,6 +18,7 @@ public final class Finds {
     bound();
     without();
     slack();
+    far();
     mean();
     most();
     Check.ends("Finds");
@@ -405,6 +406,33 @@ public final class Finds {
       Check.eq(32, "slack(0) of " + (60 + rest), f.slack(0), Math.min(61, 59 + rest));
     }
     Check.eq(32, "slack(0) without a plan", Check.quay(QUAY).slack(0), 61);
+  }
+
+  /** Up to 300 minutes count: to and fro between far bays, with three minutes to be calm each time. */
+  private static void far() {
+    for (int takes = 28; takes <= 30; takes++) {
+      int alone = takes == 30 ? -1 : 271 + takes;
+      QuayCranes x = Check.quay("bays 30;crane 0;crane 29;task at 28 takes 30;task at 1 takes 30 after 0;task at 28 takes 30 after 1;"
+          + "task at 1 takes 30 after 2;task at 28 takes " + takes + " after 3");
+      Check.eq(31, "without(1) with " + takes, x.without(1), alone);
+      Check.eq(29, "dearest(0) with " + takes, x.dearest(0), 1);
+      Check.eq(29, "dearest(1) with " + takes, x.dearest(1), alone);
+      x.breaks(1, true);
+      Check.eq(20, "best(-1) with " + takes, x.best(-1), alone);
+      Check.eq(20, "best(14) with " + takes, x.best(14), takes == 30 ? -1 : 4);
+      Check.eq(21, "easy(-1) with " + takes, x.easy(-1), alone);
+      Check.eq(21, "easy(14) with " + takes, x.easy(14), takes == 30 ? -1 : 4);
+      Check.eq(24, "follow(0) with " + takes, x.follow(0), alone);
+      Check.eq(32, "slack(4) with " + takes, x.slack(4), alone == -1 ? 61 : 0);
+    }
+    // down and up again: two ways of 29, three minutes to be calm behind each
+    for (int takes = 25; takes <= 27; takes++) {
+      StringBuilder text = new StringBuilder("bays 30;crane 29");
+      for (int t = 0; t < 7; t++) text.append(";task at ").append(t < 4 ? 0 : 29).append(" takes 30");
+      QuayCranes z = Check.quay(text + ";task at 29 takes " + takes);
+      Check.eq(22, "zones(-1) with " + takes, z.zones(-1), takes == 27 ? -1 : 274 + takes);
+      Check.eq(22, "zones(17) with " + takes, z.zones(17), takes == 27 ? -1 : 7);
+    }
   }
 
   private static void mean() {

@@ -74,6 +74,12 @@ public final class Texts {
     bad("bays ", 5);
     bad("bay 10", 0);
     bad("baysx 10", 0);
+    bad("baysz 10", 0);
+    bad("baysa 10", 0);
+    bad("bays{10", 4);
+    bad("bays`10", 4);
+    bad("bays 1/", 5);
+    bad("bays 10:", 7);
     bad(" Bays 10", 1);
     bad("bays 1;crane 0", 5);
     bad("bays 31;crane 0", 5);
