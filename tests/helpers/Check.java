@@ -1,4 +1,6 @@
 import java.util.NoSuchElementException;
+import java.util.function.Consumer;
+import java.util.function.Supplier;
 
 /** What the tests of the promises share: texts fed by twenties, answers compared. */
 public final class Check {
@@ -78,7 +80,8 @@ public final class Check {
 
   static String written(QuayCranes x) {
     StringBuilder sb = new StringBuilder();
-    for (int k = 0; k < x.written(-1); k++) sb.append((char) x.written(k));
+    int many = x.written(-1);
+    for (int k = 0; k < many; k++) sb.append((char) x.written(k));
     return sb.toString();
   }
 
@@ -101,5 +104,28 @@ public final class Check {
     for (int c = 0; c < Math.max(0, x.rule(2)); c++) for (int k = 0; k < 6; k++) sb.append(x.crane(c, k)).append(' ');
     for (int t = 0; t < Math.max(0, x.rule(3)); t++) for (int k = 0; k < 9; k++) sb.append(x.task(t, k)).append(' ');
     return sb.append(written(x)).append(' ').append(x.last()).toString();
+  }
+
+  /** What acts change and what is left of them to be undone, the image, the tape: asked in a way that uses the object up. */
+  private static String whole(QuayCranes x) {
+    StringBuilder sb = new StringBuilder(state(x)).append(" tape ").append(x.count(0));
+    for (int what = 0; what < 3; what++) sb.append(' ').append(x.fault(what));
+    for (int k = 0; k < 11; k++) sb.append(" acts ").append(x.count(1)).append(' ').append(x.undo()).append(brief(x));
+    return sb.append(" image ").append(x.back()).append(brief(x)).toString();
+  }
+
+  private static String brief(QuayCranes x) {
+    StringBuilder sb = new StringBuilder(" :");
+    for (int k = 3; k < 8; k++) sb.append(' ').append(x.rule(k));
+    return sb.append(' ').append(x.last()).toString();
+  }
+
+  /** A call that is refused leaves all as it was, but for one more in STATUS (why, or -1: in none). */
+  static void leaves(int promise, String what, Supplier<QuayCranes> made, Consumer<QuayCranes> refused, int why) {
+    QuayCranes untouched = made.get();
+    QuayCranes x = made.get();
+    refused.accept(x);
+    for (int k = 0; k < 4; k++) eq(promise, "status(" + k + ") behind " + what, x.status(k), untouched.status(k) + (k == why ? 1 : 0));
+    row(promise, "all that stays behind " + what, whole(x), whole(untouched));
   }
 }
