@@ -42,6 +42,7 @@ public final class EdgesOfActs {
     imageInsteadOfTheOneAhead();
     backToIt();
     backOutlives();
+    askedAheadOfIt();
     counts();
     Check.ends("EdgesOfActs");
   }
@@ -700,6 +701,50 @@ public final class EdgesOfActs {
     Check.tape(x, QUAY).quay();
     Check.eq(36, "back() behind a QUAY", x.back(), -1);
     Check.eq(36, "rule(4)", x.rule(4), 0);
+  }
+
+  /** Whether something was asked ahead of a change or not, the answers behind it are the same. */
+  private static void askedAheadOfIt() {
+    String smaller = "bays 6;crane 2;task at 1 takes 1;task at 4 takes 2;task at 2 takes 3";
+    Acted[] changes = {x -> Check.tape(x, "1 1").plan(), x -> x.go(1), x -> x.go(6), x -> x.breaks(0, true), x -> x.breaks(2, true),
+        x -> x.more(1, 3, 1, -1), x -> x.follow(0), x -> x.follow(1), x -> x.follow(2), x -> x.undo(), EdgesOfActs::undoAll, x -> x.back(),
+        x -> Check.tape(x, smaller).quay(), x -> Check.tape(x, "bays 2;crane 1").quay()};
+    for (int k = 0; k < changes.length; k++) {
+      QuayCranes asked = threeCranes();
+      String ahead = answers(asked);
+      QuayCranes x = threeCranes();
+      changes[k].on(asked);
+      changes[k].on(x);
+      String behind = answers(asked);
+      Check.row(34, "answers behind change " + k, behind, answers(x));
+      Check.eq(34, "change " + k + " is seen", behind.equals(ahead) ? 1 : 0, 0);
+    }
+  }
+
+  private static void undoAll(QuayCranes x) {
+    for (int k = 0; k < 10; k++) x.undo();
+  }
+
+  private static QuayCranes threeCranes() {
+    QuayCranes x = Check.planned("bays 13;gap 2;crane 1;crane 5;crane 9;task at 3 takes 2;task at 6 takes 3 after 0;task at 10 takes 4", "0 0;2 2 1");
+    x.image();
+    x.go(2);
+    return x;
+  }
+
+  /** What is worked out from the state, as a text. */
+  private static String answers(QuayCranes x) {
+    StringBuilder sb = new StringBuilder();
+    for (int c = 0; c < 3; c++) {
+      for (int m = 0; m < 20; m++) sb.append(x.where(c, m)).append(x.deed(c, m)).append(' ');
+      sb.append(x.deeds(c, 300, 4)).append(' ').append(x.swings(c, 300)).append(' ').append(x.without(c)).append(' ');
+    }
+    for (int t = 0; t < 5; t++) sb.append(x.doneBy(t)).append(' ').append(x.slack(t)).append(' ');
+    for (int what = -1; what < 15; what++) sb.append(x.best(what)).append(' ').append(x.easy(what)).append(' ').append(x.zones(what)).append(' ');
+    for (int what = 0; what < 4; what++) {
+      sb.append(x.better(what)).append(' ').append(x.bound(what)).append(' ').append(x.dearest(what)).append(' ').append(x.mean(what)).append(' ').append(x.most(what)).append(' ');
+    }
+    return sb.append(x.nearest(300)).append(' ').append(x.idle(300)).append(' ').append(x.last()).append(' ').append(Check.written(x)).toString();
   }
 
   /** "0 bytes of the TAPE, 1 ACTS that can be UNDONE. NONE for others." */

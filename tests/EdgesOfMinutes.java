@@ -533,6 +533,9 @@ public final class EdgesOfMinutes {
     // at first nobody works, then the last of four
     QuayCranes y = Check.planned("bays 9;crane 0;crane 2;crane 4;crane 7;task at 8 takes 2", "3 0");
     for (int n = 0; n <= 10; n++) Check.eq(28, "idle(" + n + ")", y.idle(n), n < 3 ? n : Math.max(2, n - 2));
+    // and the first of four: a step, a minute to be calm, two of work
+    QuayCranes z = Check.planned("bays 9;crane 0;crane 2;crane 4;crane 7;task at 1 takes 2", "0 0");
+    for (int n = 0; n <= 10; n++) Check.eq(28, "idle(" + n + ")", z.idle(n), n < 3 ? n : Math.max(2, n - 2));
     QuayCranes far = Check.planned(far(13), "0 0 1 2 3 4 5 6 7");
     Check.eq(28, "idle(299)", far.idle(299), 78);
     Check.eq(28, "idle(300)", far.idle(300), 78);

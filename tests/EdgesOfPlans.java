@@ -26,6 +26,9 @@ public final class EdgesOfPlans {
     bestNone();
     bestWithin300();
     bestOfSeveral();
+    bestLessByOne();
+    bestOfWhatIsLeft();
+    bestWhereACraneCanCome();
     bestOfNothing();
     easyGives();
     easyWithin300();
@@ -38,6 +41,7 @@ public final class EdgesOfPlans {
     betterThanNone();
     betterOfSeveral();
     betterOfWhatIsTold();
+    betterOfEight();
     betterWithin300();
     followWhich();
     followRefused();
@@ -364,6 +368,62 @@ public final class EdgesOfPlans {
     Check.row(20, "best(..)", found(v, 2), "3 0 0 0 0 1 2");
   }
 
+  /** "that with the least LAST": a minute less is less, and ahead of the first row */
+  private static void bestLessByOne() {
+    // 3 off is done in 6, 2 off in 5; 5 off in 9 more
+    QuayCranes x = Check.quay("bays 9;crane 5;task at 2 takes 1;task at 7 takes 1");
+    Check.eq(18, "tried()", Check.tape(x, "0 0 1").tried(), 15);
+    Check.eq(18, "tried()", Check.tape(x, "0 1 0").tried(), 14);
+    Check.row(20, "best(..)", found(x, 2), "14 0 0 1 0");
+    Check.row(22, "zones(..): by bays", found(x, 1), "15 0 0 0 1");
+    // 0 1 in 6, 1 0 in 5
+    Check.row(22, "zones(..)", found(Check.quay("bays 20;crane 2;crane 7;task at 4 takes 1"), 1), "5 0 0");
+    // crane 1 in 6, crane 2 in 5
+    Check.row(23, "better", better(Check.planned("bays 30;crane 2;crane 13;crane 18;task at 16 takes 1", "0 0")), "5 0 2 0");
+  }
+
+  /** Minutes that are done already are no part of a LAST. */
+  private static void bestOfWhatIsLeft() {
+    QuayCranes x = Check.planned("bays 9;crane 1;task at 1 takes 5;task at 4 takes 3", "0 0");
+    for (int m = 0; m < 5; m++) {
+      // then three steps, two minutes to be calm, three
+      for (int sort = 0; sort < 3; sort++) Check.row(20 + sort, "found behind " + m + ", sort " + sort, found(x, sort), 13 - m + " 0 0 0 1");
+      Check.eq(30, "bound(2) behind " + m, x.bound(2), 8 - m);
+      x.go(1);
+    }
+    for (int sort = 0; sort < 3; sort++) Check.row(20 + sort, "found behind 5, sort " + sort, found(x, sort), "8 -1 0 -1 0");
+  }
+
+  /** The last bay that a crane can come to, with the others pushed up to the ends of the quay or to a broken one, and the bay beyond. */
+  private static void bestWhereACraneCanCome() {
+    int[] bays = {4, 11, 18, 25};
+    for (int gap = 1; gap <= 5; gap += 2) {
+      for (int c = 0; c < 4; c++) {
+        comes(gap, c, -1, gap * c, -1);
+        comes(gap, c, -1, 29 - gap * (3 - c), 1);
+        for (int broken = 0; broken < 4; broken++) {
+          if (broken != c) comes(gap, c, broken, bays[broken] + gap * (c - broken), broken < c ? -1 : 1);
+        }
+      }
+    }
+  }
+
+  private static void comes(int gap, int crane, int broken, int bay, int way) {
+    StringBuilder text = new StringBuilder("bays 30;gap " + gap);
+    for (int c = 0; c < 4; c++) text.append(";crane ").append(4 + 7 * c).append(" lift ").append(c == crane ? 2 : 1);
+    for (int off = 0; off < 2; off++) {
+      int site = bay + off * way;
+      if (site < 0 || site > 29) continue;
+      QuayCranes x = Check.quay(text + ";task at " + site + " takes 1 heavy 2");
+      if (broken >= 0) x.breaks(broken, true);
+      int tried = Check.tape(x, crane + " 0").tried();
+      Check.eq(18, "tried() of " + crane + " to " + site + " of gap " + gap + " broken " + broken, tried > 0 ? 1 : 0, 1 - off);
+      Check.eq(20, "best(-1)", x.best(-1), tried);
+      Check.eq(22, "zones(-1)", x.zones(-1), tried);
+      Check.eq(21, "easy(-1)", x.easy(-1), tried);
+    }
+  }
+
   /** Nothing left: the empty PLAN, with LAST 0, for whoever is there. */
   private static void bestOfNothing() {
     QuayCranes x = Check.quay("bays 9;crane 0;crane 4");
@@ -581,10 +641,32 @@ public final class EdgesOfPlans {
     Check.row(23, "better: 0 to the end", better(e), "17 0 0 2");
   }
 
+  /** The fullest list of the last crane: each of its tasks at each place. */
+  private static void betterOfEight() {
+    String four = "bays 9;crane 0;crane 2;crane 4;crane 6";
+    String last = ";task at 6 takes 1".repeat(7);
+    QuayCranes x = Check.planned(four + last + ";task at 0 takes 1", "3 0 1 2 3 4 5 6 7");
+    // crane 3 can't come to 0, crane 0 stands there
+    Check.row(23, "better", better(x), "7 7 0 0");
+    Check.row(23, "better: all are as good", better(Check.planned(four + last + ";task at 6 takes 1", "3 7 6 5 4 3 2 1 0")), "-1 -1 -1 -1");
+    QuayCranes y = Check.planned(four + last + ";task at 6 takes 1 after 0", "3 7 6 5 4 3 2 1 0");
+    // 0 ahead of all, or 7 behind it
+    Check.row(23, "better", better(y), "8 0 3 0");
+    y.follow(3);
+    Check.row(25, "written", Check.written(y), "0;1;2;3 0 7 6 5 4 3 2 1");
+    QuayCranes z = Check.planned(four + ";task at 6 takes 1" + last.substring(0, 18 * 6) + ";task at 6 takes 1 after 0", "3 7 1 2 3 4 5 6;0 0");
+    Check.row(23, "better: from another's list to the first place", better(z), "8 0 3 0");
+  }
+
   /** "one TASK told in it that isn't DONE", "(that isn't BROKEN, by LIFT; places among all TASKS of the list without it, DONE ones too)" */
   private static void betterOfWhatIsTold() {
     // 1 isn't told: it isn't taken
     Check.row(23, "better", better(Check.planned("bays 9;crane 1;crane 5;task at 1 takes 9;task at 5 takes 1", "0 0")), "-1 -1 -1 -1");
+    // nor where all would be well with it
+    QuayCranes n = Check.planned(QUAY, "1 1");
+    Check.eq(13, "last(): 0 comes ahead", n.last(), -1);
+    Check.row(23, "better: 0 isn't told", better(n), "-1 -1 -1 -1");
+    Check.eq(24, "follow(3)", n.follow(3), -1);
     // by lift: as heavy as can be, and heavier
     for (int lift = 4; lift <= 6; lift++) {
       QuayCranes x = Check.planned("bays 20;crane 1;crane 8 lift " + lift + ";task at 1 takes 9;task at 8 takes 9 heavy 5", "0 0 1");
@@ -922,6 +1004,8 @@ public final class EdgesOfPlans {
       QuayCranes y = Check.quay(four + ";task at " + bay + " takes 3;task at 14 takes 2;task at 14 takes 1");
       Check.eq(38, "most(1): of two alike the lowest", y.most(1), Math.min(bay, 14));
     }
+    // two bays side by side with more together
+    Check.eq(38, "most(1)", Check.quay(four + ";task at 4 takes 3;task at 6 takes 2;task at 7 takes 2").most(1), 4);
     QuayCranes x = Check.planned(four + ";task at 0 takes 4;task at 5 takes 3", "0 0");
     for (int m = 0; m <= 4; m++) {
       Check.eq(38, "most(1) behind " + m, x.most(1), m < 2 ? 0 : 5);

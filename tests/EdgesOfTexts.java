@@ -389,6 +389,11 @@ public final class EdgesOfTexts {
         bad(ahead, more + word + behind);
       }
       bad(ahead, word.substring(1) + behind);
+      // each letter of it counts
+      for (int k = 0; k < word.length(); k++) {
+        char other = (char) (word.charAt(k) == 'z' ? 'a' : word.charAt(k) + 1);
+        bad(ahead, word.substring(0, k) + other + word.substring(k + 1) + behind);
+      }
       bad(ahead, word.substring(0, word.length() - 1) + behind);
       bad(ahead, word.substring(0, 1) + " " + word.substring(1) + behind);
       bad(ahead, word.substring(0, 1).toUpperCase() + word.substring(1) + behind);
