@@ -6,7 +6,10 @@ public final class BestOfAll {
     int runs = args.length > 0 ? Integer.parseInt(args[0]) : 400;
     long first = args.length > 1 ? Long.parseLong(args[1]) : 1;
     for (long seed = first; seed < first + runs && Check.wrong == 0; seed++) {
-      compare(new Random(seed));
+      Random random = new Random(seed);
+      compare(random, quay(random));
+      // far and crowded, with all tasks that may be left: few, as the Model goes through thousands of plans for each
+      if (seed % 100 == 0) compare(random, wideQuay(random));
       if (Check.wrong != 0) System.out.println("seed " + seed);
     }
     Check.ends("BestOfAll");
@@ -36,8 +39,24 @@ public final class BestOfAll {
     return sb.toString();
   }
 
-  private static void compare(Random random) {
-    String text = quay(random);
+  private static String wideQuay(Random random) {
+    int cranes = 3 + random.nextInt(2);
+    int gap = 1 + random.nextInt(5);
+    int at = random.nextInt(3);
+    StringBuilder sb = new StringBuilder();
+    for (int c = 0; c < cranes; c++) {
+      sb.append(";crane ").append(at);
+      at += gap + (c + 1 < cranes ? random.nextInt(3) : 0);
+    }
+    int bays = Math.min(30, at + random.nextInt(31));
+    for (int t = 0; t < 5; t++) {
+      sb.append(";task at ").append(random.nextInt(bays)).append(" takes ").append(1 + random.nextInt(30));
+      if (t > 0 && random.nextInt(3) == 0) sb.append(" after ").append(random.nextInt(t));
+    }
+    return sb.insert(0, "bays " + bays + ";gap " + gap).toString();
+  }
+
+  private static void compare(Random random, String text) {
     QuayCranes x = Check.quay(text);
     Model m = new Model();
     for (int from = 0; from < text.length(); from += 20) m.feed(Check.packed(text, from));

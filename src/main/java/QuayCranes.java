@@ -544,7 +544,7 @@ public final class QuayCranes {
     private Course ahead() {
         if (!course.known) {
             apart.copyOf(now);
-            course.record(apart);
+            course.goThrough(apart);
         }
         return course;
     }
@@ -1351,7 +1351,7 @@ public final class QuayCranes {
         boolean known;
 
         /** The yard is used up. */
-        void record(Yard yard) {
+        void goThrough(Yard yard) {
             int told = yard.plan.bits();
             last = NONE;
             for (int t = 0; t < doneIn.length; t++) {
